@@ -62,8 +62,8 @@ public final class LentMinds {
     private final Judge judged = new Judge();
     private final Watch watch = new Watch();
     private final Few few = new Few();
-    private final Keeper keeper = new Keeper();
-    private final Backlog backlog = new Backlog();
+    private final Keeper keeper = new Keeper(few);
+    private final Backlog backlog = new Backlog(few);
 
     public LentMinds() {
         for (int i = 0; i < MOST_IMAGES; i++) {
@@ -261,8 +261,8 @@ public final class LentMinds {
 
     public int run(int rule, int q, int what, int seed) throws IllegalArgumentException {
         need(within(rule, ROUND, CALL) && within(q, 1, MOST_STAY) && within(what, 0, 3));
-        trial.begin(house, moment);
-        trial.follow(rule, q, seed);
+        trial.begin(moment);
+        trial.follow(house, rule, q, seed);
         switch (what) {
             case 0: return trial.moment.harm;
             case 1: return trial.moment.worth;
@@ -272,8 +272,8 @@ public final class LentMinds {
     }
 
     private int harmOfRun(int rule, int q) {
-        trial.begin(house, moment);
-        trial.follow(rule, q, 0);
+        trial.begin(moment);
+        trial.follow(house, rule, q, 0);
         return trial.moment.harm;
     }
 
@@ -343,9 +343,9 @@ public final class LentMinds {
     }
 
     private int harmIfTaught(int body, int many, int rule, int q) {
-        trial.begin(house, moment);
+        trial.begin(moment);
         trial.moment.did[body] += many;
-        trial.follow(rule, q, 0);
+        trial.follow(house, rule, q, 0);
         return trial.moment.harm;
     }
 
@@ -412,7 +412,7 @@ public final class LentMinds {
 
     private boolean canHold(int bits) {
         few.gather(house, moment, bits);
-        return keeper.hold(few);
+        return keeper.hold();
     }
 
     public int two(int bits) throws IllegalArgumentException {
@@ -440,7 +440,7 @@ public final class LentMinds {
         needBodies(bits, 1, BACK_BODIES);
         need(within(t, 1, BACK_MINUTES) && within(what, 0, 1));
         few.gather(house, moment, bits);
-        backlog.reckon(few, t);
+        backlog.reckon(t);
         return what == 0 ? backlog.leastHarm() : backlog.firstStep();
     }
 
@@ -864,7 +864,8 @@ public final class LentMinds {
         }
 
         boolean isAsleep(House house, int body) {
-            return house.has(body) && now >= house.sleepsFrom[body] && now <= house.sleepsTo[body];
+            return body >= 0 && body < MOST_BODIES
+                && now >= house.sleepsFrom[body] && now <= house.sleepsTo[body];
         }
 
         /** Awake, not done, not in bed: one that a minute changes. */
@@ -873,16 +874,18 @@ public final class LentMinds {
         }
 
         int hold(House house, int body) {
-            if (!house.has(body)) {
+            if (body < 0 || body >= MOST_BODIES) {
                 return 0;
             }
             int habit = house.habit[body];
-            int learned = habit < 1 ? 0 : did[body] / habit;
-            return Math.min(house.holds[body] + learned, MOST_HOLD);
+            if (habit < 1) {
+                return house.holds[body];
+            }
+            return Math.min(house.holds[body] + did[body] / habit, MOST_HOLD);
         }
 
         int slack(House house, int body) {
-            return house.has(body) ? hold(house, body) - without[body] : 0;
+            return body < 0 || body >= MOST_BODIES ? 0 : hold(house, body) - without[body];
         }
 
         boolean hasDrifted(House house, int body) {
@@ -1086,49 +1089,43 @@ public final class LentMinds {
     /** Goes on by a rule to the end of the day. */
     private static final class Trial {
         final Moment moment = new Moment();
-        private House house = null;
         private int seed = 0;
         private int crying = 0;
 
-        void begin(House inHouse, Moment from) {
-            house = inHouse;
+        void begin(Moment from) {
             moment.copy(from);
             moment.forget();
         }
 
-        void follow(int rule, int q, int firstSeed) {
-            House inHouse = house;
-            if (inHouse == null) {
-                return;
-            }
+        void follow(House house, int rule, int q, int firstSeed) {
             seed = firstSeed;
             int stayed = 0;
-            for (int i = moment.now; i < inHouse.day; i++) {
+            for (int i = moment.now; i < house.day; i++) {
                 if (rule == CALL) {
-                    drawCries(inHouse);
+                    drawCries(house);
                 }
-                if (moment.way == 0 && (stayed >= q || !moment.isUp(inHouse, moment.mind))) {
-                    int next = choose(inHouse, rule);
+                if (moment.way == 0 && (stayed >= q || !moment.isUp(house, moment.mind))) {
+                    int next = choose(house, rule);
                     if (next != NONE) {
-                        moment.send(inHouse, next);
+                        moment.send(house, next);
                         stayed = 0;
                     }
                 }
                 if (moment.way == 0) {
                     stayed++;
                 }
-                moment.live(inHouse);
+                moment.live(house);
             }
         }
 
-        private void drawCries(House inHouse) {
+        private void drawCries(House house) {
             crying = 0;
-            for (int b = 0; b < inHouse.bodies; b++) {
-                if (moment.isUp(inHouse, b)) {
+            for (int b = 0; b < house.bodies; b++) {
+                if (moment.isUp(house, b)) {
                     seed = seed * 1103515245 + 12345;
                     int drawn = (seed >>> 16 & 0x7fff) % OF_TWENTY;
-                    int below = moment.hasDrifted(inHouse, b)
-                        ? inHouse.criesDrifted[b] : inHouse.criesElse[b];
+                    int below = moment.hasDrifted(house, b)
+                        ? house.criesDrifted[b] : house.criesElse[b];
                     if (drawn < below) {
                         crying |= 1 << b;
                     }
@@ -1137,33 +1134,33 @@ public final class LentMinds {
         }
 
         /** The body to which the rule passes the mind; ROUND looks from the next on, all others from 0. */
-        private int choose(House inHouse, int rule) {
+        private int choose(House house, int rule) {
             int found = NONE;
-            int bodies = inHouse.bodies;
+            int bodies = house.bodies;
             int first = rule == ROUND ? moment.mind + 1 : 0;
             for (int i = 0; i < bodies; i++) {
                 int b = first + i < bodies ? first + i : first + i - bodies;
-                boolean fits = b != moment.mind && moment.isUp(inHouse, b)
+                boolean fits = b != moment.mind && moment.isUp(house, b)
                     && (rule != CALL || (crying >> b & 1) != 0);
-                if (fits && (found == NONE || isBetter(inHouse, rule, b, found))) {
+                if (fits && (found == NONE || isBetter(house, rule, b, found))) {
                     found = b;
                 }
             }
             return found;
         }
 
-        private boolean isBetter(House inHouse, int rule, int body, int than) {
+        private boolean isBetter(House house, int rule, int body, int than) {
             switch (rule) {
                 case DUE:
-                    return moment.slack(inHouse, body) < moment.slack(inHouse, than);
+                    return moment.slack(house, body) < moment.slack(house, than);
                 case HARM:
-                    int bodyTime = Math.max(moment.slack(inHouse, body) + 1, 1);
-                    int thanTime = Math.max(moment.slack(inHouse, than) + 1, 1);
-                    return inHouse.harm[body] * thanTime > inHouse.harm[than] * bodyTime;
+                    int bodyTime = Math.max(moment.slack(house, body) + 1, 1);
+                    int thanTime = Math.max(moment.slack(house, than) + 1, 1);
+                    return house.harm[body] * thanTime > house.harm[than] * bodyTime;
                 case NEAR:
-                    return inHouse.cost(moment.mind, body) < inHouse.cost(moment.mind, than);
+                    return house.cost(moment.mind, body) < house.cost(moment.mind, than);
                 case SOON:
-                    return inHouse.needs[body] - moment.did[body] < inHouse.needs[than] - moment.did[than];
+                    return house.needs[body] - moment.did[body] < house.needs[than] - moment.did[than];
                 default:
                     return false;
             }
@@ -1259,8 +1256,12 @@ public final class LentMinds {
             }
         }
 
+        boolean has(int place) {
+            return place >= 0 && place < size;
+        }
+
         int costOf(int from, int to) {
-            return cost[from * FEW_BODIES + to];
+            return !has(from) || !has(to) ? 0 : cost[from * FEW_BODIES + to];
         }
     }
 
@@ -1273,32 +1274,31 @@ public final class LentMinds {
         private static final int MOST_STATES = FEW_BODIES * BASE * BASE * BASE;
         private static final int DEAD = -1;
 
+        private final Few few;
         /** Of each state 0 (new), DEAD, or 1 and its place on the path. */
         private final int[] mark = new int[MOST_STATES];
         private final int[] path = new int[MOST_STATES];
         private final int[] move = new int[MOST_STATES];
         private final int[] without = new int[FEW_BODIES];
-        private Few few = null;
         private int block = 1;
         int depth = 0;
         int first = 0;
 
-        /** Whether there are steps without end: then path and move have them, from first on again and again. */
-        boolean hold(Few them) {
-            begin(them);
+        Keeper(Few few) {
+            this.few = few;
+        }
+
+        /** Whether there are steps without end: then the path has them, and goes on from first. */
+        boolean hold() {
+            begin();
             // each state comes on the path once, and tries each body once
             for (int turns = MOST_STATES * (FEW_BODIES + 2); turns > 0 && depth > 0; turns--) {
-                int state = path[depth - 1];
                 int to = move[depth - 1];
-                if (to >= them.size) {
-                    mark[state] = DEAD;
-                    depth--;
-                    if (depth > 0) {
-                        move[depth - 1]++;
-                    }
+                if (!few.has(to)) {
+                    giveUp();
                 } else {
-                    int next = stateBehind(them, state, to);
-                    if (next == NONE || mark[next] == DEAD) {
+                    int next = stateBehind(path[depth - 1], to);
+                    if (next < 0 || next >= MOST_STATES || mark[next] == DEAD) {
                         move[depth - 1]++;
                     } else if (mark[next] > 0) {
                         first = mark[next] - 1;
@@ -1311,24 +1311,32 @@ public final class LentMinds {
             return false;
         }
 
-        private void begin(Few them) {
-            few = them;
+        private void begin() {
             block = 1;
-            for (int i = 1; i < them.size && i < FEW_BODIES; i++) {
+            for (int i = 1; i < few.size; i++) {
                 block *= BASE;
             }
-            Arrays.fill(mark, 0, Math.min(block * them.size, MOST_STATES), 0);
+            Arrays.fill(mark, 0, Math.min(block * few.size, MOST_STATES), 0);
             depth = 0;
             first = 0;
             push(0);
         }
 
         private void push(int state) {
-            if (depth < MOST_STATES) {
+            if (depth < MOST_STATES && state < MOST_STATES) {
                 path[depth] = state;
                 move[depth] = 0;
                 depth++;
                 mark[state] = depth;
+            }
+        }
+
+        /** The last state of the path leads nowhere: the one ahead of it tries its next body. */
+        private void giveUp() {
+            depth--;
+            mark[path[depth]] = DEAD;
+            if (depth > 0) {
+                move[depth - 1]++;
             }
         }
 
@@ -1337,18 +1345,18 @@ public final class LentMinds {
         }
 
         /** The state behind a step; NONE if one would have more than it holds. */
-        private int stateBehind(Few them, int state, int to) {
+        private int stateBehind(int state, int to) {
             int mind = placeOfMind(state);
             int digits = state;
-            for (int i = them.size - 1; i >= 0; i--) {
+            for (int i = few.size - 1; i >= 0; i--) {
                 without[i] = i == mind ? 0 : digits % BASE;
                 digits = i == mind ? digits : digits / BASE;
             }
-            int minutes = them.costOf(mind, to);
+            int way = few.costOf(mind, to);
             int behind = to;
-            for (int i = 0; i < them.size; i++) {
-                int has = without[i] + minutes + (i == to ? 0 : 1);
-                if (has > them.hold[i]) {
+            for (int i = 0; i < few.size; i++) {
+                int has = without[i] + way + (i == to ? 0 : 1);
+                if (has > few.hold[i]) {
                     return NONE;
                 }
                 behind = i == to ? behind : behind * BASE + has;
@@ -1357,20 +1365,18 @@ public final class LentMinds {
         }
 
         int bodyOfStep(int k) {
-            Few them = few;
             int length = depth - first;
-            if (them == null || length < 1 || k < 0) {
+            if (length < 1 || k < 0) {
                 return NONE;
             }
             int at = k < depth ? k : first + (k - first) % length;
-            return them.who[move[at]];
+            return few.has(move[at]) ? few.who[move[at]] : NONE;
         }
 
         int minutesOfRound() {
-            Few them = few;
             int minutes = 0;
-            for (int i = first; i < depth && them != null; i++) {
-                minutes += them.costOf(placeOfMind(path[i]), move[i]) + 1;
+            for (int i = first; i < depth; i++) {
+                minutes += few.costOf(placeOfMind(path[i]), move[i]) + 1;
             }
             return minutes;
         }
@@ -1382,76 +1388,80 @@ public final class LentMinds {
      */
     private static final class Backlog {
         private static final int BASE = FEW_HOLD + 2;
-        private static final int STATES = BACK_BODIES * BASE * BASE;
-        private static final int NOT_REACHED = Integer.MAX_VALUE;
+        private static final int BLOCK = BASE * BASE;
+        private static final int STATES = BACK_BODIES * BLOCK;
+        private static final int NOT_REACHED = 1000000000;
 
-        /** By minute and state: 4 times the least harm up to there, and the first step on the way to it. */
+        private final Few few;
+        /** By minute and state: 4 times the least harm up to there, and the first step that leads to it. */
         private final int[] least = new int[BACK_MINUTES * STATES];
         private final int[] without = new int[FEW_BODIES];
-        private Few few = null;
         private int minutes = 0;
-        private int found = 0;
+        private int found = NOT_REACHED;
 
-        void reckon(Few them, int t) {
-            few = them;
+        Backlog(Few few) {
+            this.few = few;
+        }
+
+        void reckon(int t) {
             minutes = Math.min(t, BACK_MINUTES);
             found = NOT_REACHED;
-            Arrays.fill(least, 0, Math.max(minutes, 0) * STATES, NOT_REACHED);
+            Arrays.fill(least, NOT_REACHED);
             least[0] = 0;
             for (int minute = 0; minute < minutes; minute++) {
                 for (int state = 0; state < STATES; state++) {
-                    if (least[minute * STATES + state] != NOT_REACHED) {
-                        goOn(them, minute, state);
+                    int before = least[minute * STATES + state];
+                    if (before != NOT_REACHED) {
+                        takeApart(state);
+                        goOn(minute, state / BLOCK, before);
                     }
                 }
             }
         }
 
-        private void goOn(Few them, int minute, int state) {
-            int before = least[minute * STATES + state];
-            int mind = state / (BASE * BASE);
-            for (int to = 0; to < them.size && to < BACK_BODIES; to++) {
-                takeApart(them, state);
-                int way = them.costOf(mind, to);
-                int harm = harmOfStep(them, to, way, minutes - minute);
-                int value = before + 4 * harm + (minute == 0 ? to : 0);
-                int then = minute + way + 1;
-                if (then >= minutes) {
-                    found = Math.min(found, value);
-                } else {
-                    int index = then * STATES + stateBehind(them, to, way);
-                    least[index] = Math.min(least[index], value);
-                }
-            }
-        }
-
-        private void takeApart(Few them, int state) {
-            int mind = state / (BASE * BASE);
+        private void takeApart(int state) {
+            int mind = state / BLOCK;
             int digits = state;
-            for (int i = them.size - 1; i >= 0; i--) {
+            for (int i = few.size - 1; i >= 0; i--) {
                 without[i] = i == mind ? 0 : digits % BASE;
                 digits = i == mind ? digits : digits / BASE;
             }
         }
 
-        private int harmOfStep(Few them, int to, int way, int left) {
+        private void goOn(int minute, int mind, int before) {
+            for (int to = 0; to < few.size; to++) {
+                int way = few.costOf(mind, to);
+                int value = before + 4 * harmOfStep(to, way, minutes - minute) + (minute == 0 ? to : 0);
+                int then = minute + way + 1;
+                if (then >= minutes) {
+                    found = Math.min(found, value);
+                } else {
+                    int index = then * STATES + stateBehind(to, way);
+                    if (index < least.length) {
+                        least[index] = Math.min(least[index], value);
+                    }
+                }
+            }
+        }
+
+        private int harmOfStep(int to, int way, int left) {
             int harm = 0;
-            for (int i = 0; i < them.size; i++) {
+            for (int i = 0; i < few.size; i++) {
                 int lacking = Math.min(i == to ? way : way + 1, left);
-                int held = Math.max(them.hold[i] - without[i], 0);
-                harm += them.harm[i] * Math.max(lacking - held, 0);
+                int held = Math.max(few.hold[i] - without[i], 0);
+                harm += few.harm[i] * Math.max(lacking - held, 0);
             }
             return harm;
         }
 
-        private int stateBehind(Few them, int to, int way) {
+        private int stateBehind(int to, int way) {
             int digits = 0;
-            for (int i = 0; i < them.size; i++) {
+            for (int i = 0; i < few.size; i++) {
                 if (i != to) {
-                    digits = digits * BASE + Math.min(without[i] + way + 1, them.hold[i] + 1);
+                    digits = digits * BASE + Math.min(without[i] + way + 1, few.hold[i] + 1);
                 }
             }
-            return to * BASE * BASE + digits;
+            return to * BLOCK + digits;
         }
 
         int leastHarm() {
@@ -1459,8 +1469,8 @@ public final class LentMinds {
         }
 
         int firstStep() {
-            Few them = few;
-            return them == null ? NONE : them.who[found % 4];
+            int place = found % 4;
+            return few.has(place) ? few.who[place] : NONE;
         }
     }
 }
