@@ -118,6 +118,8 @@ public final class FewTest {
         LentMinds z = Checks.house(bodies(9, 3, 0));
         Checks.due("six: two and four", z.two(0b111111000), 0b11000);
         Checks.due("five: one and four", z.two(0b111110000), 0b10000);
+        LentMinds w = Checks.house("body 0 0 3 9 0 0;".repeat(4) + bodies(2, 1, 0));
+        Checks.due("six: four and two", w.two(0b111111), 0b1111);
         Checks.refused("one", () -> x.two(1));
         Checks.refused("none", () -> x.two(0));
         Checks.refused("seven", () -> x.two(0b1111111));
@@ -139,6 +141,13 @@ public final class FewTest {
         // a hold of 60 counts as 8: 32 minutes of 40
         LentMinds z = Checks.house("body 0 0 60 9 1 0;body 15 15 60 9 1 0;breath 9;stride 1;");
         Checks.due("8 at most", z.back(3, 40, 0), 32);
+        // 0 and 2 in turn, so that 1 drifts from the ninth minute on; to go to 1 lets 2 drift twice
+        LentMinds v = Checks.house("body 0 0 1 9 9 0;body 0 0 8 9 1 0;body 0 0 1 9 2 0;breath 0;");
+        Checks.due("nine minutes", v.back(7, 9, 0), 1);
+        Checks.due("eleven minutes", v.back(7, 11, 0), 3);
+        Checks.due("twelve minutes, the one or the other", v.back(7, 12, 0), 4);
+        Checks.due("thirteen minutes, by going there", v.back(7, 13, 0), 4);
+        Checks.due("first step to the first", v.back(7, 13, 1), 0);
         LentMinds w = Checks.house(bodies(3, 1, 0));
         Checks.due("three in turn: one of them drifts in each minute from the second on", w.back(7, 10, 0), 9);
     }

@@ -94,6 +94,7 @@ public final class HouseTest {
         Checks.due("the last habit", y.body(0, 6), 9);
         Checks.due("the last sleep", y.now(0, 6), 0);
         Checks.due("the last cries", y.trust(0, 1), 1000);
+        Checks.due("asleep for the first minute", Checks.house(BODY + "sleep 0 0 0;").now(0, 6), 1);
         LentMinds z = new LentMinds();
         Checks.due("blanks and zeros", Checks.tell(z, "   body 007 0  0001 1 0 0  ;day0030;   "), 1);
         Checks.due("007", z.body(0, 0), 7);
@@ -113,6 +114,10 @@ public final class HouseTest {
         faulty("  1", 1, 2);
         faulty("bodyy 0 0 1 1 0 0;", 1, 0);
         faulty("bod 0 0 1 1 0 0;", 1, 0);
+        faulty("xody 0 0 1 1 0 0;", 1, 0);
+        faulty("bodx 0 0 1 1 0 0;", 1, 0);
+        faulty("bodyz 0 0 1 1 0 0;", 1, 0);
+        faulty("bodya 0 0 1 1 0 0;", 1, 0);
         faulty("Body 0 0 1 1 0 0;", 1, 0);
         faulty("body", 1, 4);
         faulty("body   ", 1, 7);
@@ -149,6 +154,9 @@ public final class HouseTest {
         faulty(BODY + "sleep 0 480 480;", 2, 25);
         faulty(BODY + "sleep 0 479 480;", 2, 29);
         faulty(BODY + "sleep 0 5 4;", 2, 27);
+        faulty(BODY + "habit 1 1;", 2, 23);
+        faulty(BODY + "cries 1 1 1;", 2, 23);
+        faulty(BODY + "joint 9 1;", 2, 23);
         faulty(BODY + "habit 0 0;", 2, 25);
         faulty(BODY + "habit 0 61;", 2, 25);
         faulty(BODY + "cries 0 0 0;", 2, 25);

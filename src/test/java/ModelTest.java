@@ -174,7 +174,13 @@ public final class ModelTest {
             case 33 -> call("beds", someBody(), some(0, 8), some(0, 1));
             case 34 -> callDear("two", someBits(6));
             case 35 -> call("alike", some(1, 60), some(0, 30));
-            case 36 -> call("spot", some(0, 15), some(0, 15));
+            case 36 -> {
+                int more = 1 + upTo(3);
+                int far = of(3, 15);
+                for (int i = 0; i < more; i++) call("spot", some(0, far), some(0, far));
+                call("placed", 0);
+                call("placed", 1);
+            }
             case 37 -> call("placed", some(0, 1));
             case 38 -> callDear("back", someBits(3), some(1, 40), some(0, 1));
             case 39 -> callDear("safe");

@@ -40,6 +40,9 @@ public final class RulesTest {
         Checks.due("behind the last the first", x.run(0, 29, 1, 0), 1);
         x.bed(0, true);
         Checks.due("not one in bed", x.run(0, 29, 1, 0), 2);
+        LentMinds w = Checks.house("body 0 0 60 1 0 1;body 0 0 60 240 0 2;body 0 0 60 1 0 4;" + LAST);
+        w.pass(1);
+        Checks.due("the next, not the first", w.run(0, 29, 1, 0), 4);
         LentMinds y = Checks.house(three + "sleep 0 29 29;");
         y.pass(2);
         Checks.due("not one asleep", y.run(0, 29, 1, 0), 2);

@@ -57,6 +57,8 @@ public final class StayTest {
         LentMinds joint = Checks.house(three + "joint 2 0;");
         Checks.due("joint with it", joint.stay(0), 999);
         Checks.due("joint with another", joint.stay(1), 4);
+        Checks.due("one beside the joint one", Checks.house("body 0 0 60 9 1 0;body 0 0 2 9 1 0;body 0 0 4 9 1 0;"
+            + "joint 0 1;").stay(0), 4);
         Checks.due("asleep for a while", Checks.house(three + "sleep 2 2 11;").stay(0), 15);
         LentMinds drifted = Checks.house(three + "sleep 2 7 11;");
         drifted.minutes(7);
@@ -99,6 +101,8 @@ public final class StayTest {
     private static void gone() {
         LentMinds x = Checks.house("body 0 0 3 4 2 10;body 0 0 3 4 0 0;joint 0 1;body 0 0 9 4 0 0;day 30;");
         goneIs("of two the first", x, 3, 0);
+        goneIs("the first in time", Checks.house("body 0 0 2 9 0 0;body 0 0 9 9 0 0;"), 2, 0);
+        goneIs("though not by number", Checks.house("body 0 0 9 9 0 0;body 0 0 2 9 0 0;"), 2, 1);
         x.minutes(2);
         goneIs("the mind is gone from now on", x, 3, 0);
         x.bed(0, true);
@@ -132,6 +136,8 @@ public final class StayTest {
         Checks.due("in bed", x.over(), 0);
         LentMinds y = Checks.house("body 0 0 9 20 0 0;body 0 0 9 15 0 0;joint 0 1;body 0 0 9 12 0 0;day 30;");
         Checks.due("joint works once", y.over(), 2);
+        Checks.due("joint works that need as much, once",
+            Checks.house("body 0 0 9 40 0 0;body 0 0 9 40 0 0;joint 1 0;day 30;").over(), 10);
         y.bed(0, true);
         Checks.due("the other of them", y.over(), 0);
         y.bed(0, false);
