@@ -417,7 +417,7 @@ public final class LentMinds {
 
     public int two(int bits) throws IllegalArgumentException {
         needBodies(bits, 2, TWO_BODIES);
-        int first = Integer.lowestOneBit(bits);
+        int first = bits & -bits;
         for (int part = first; part < bits; part++) {
             if ((part & ~bits) == 0 && (part & first) != 0 && canHoldApart(part, bits & ~part)) {
                 return part;
