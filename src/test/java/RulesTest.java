@@ -145,11 +145,16 @@ public final class RulesTest {
         Checks.due("DID", x.now(0, 1), 2);
     }
 
-    private static void bestAndOften() {
+    private static LentMinds five() {
         LentMinds x = Checks.house("body 0 0 4 60 3 1;body 9 9 5 40 2 8;body 3 1 7 30 9 5;body 12 2 3 50 1 9;"
             + "body 1 1 9 20 4 7;habit 2 3;sleep 3 10 40;day 200;");
         x.minutes(7);
+        return x;
+    }
+
+    private static void bestAndOften() {
         for (int q = 1; q <= 60; q += 3) {
+            LentMinds x = five();
             int best = 0;
             for (int rule = 1; rule < 5; rule++) {
                 int less = x.run(best, q, 0, 0) - x.run(rule, q, 0, 0);
@@ -160,6 +165,7 @@ public final class RulesTest {
             Checks.due("best(" + q + ")", x.best(q), best);
         }
         for (int rule = 0; rule < 5; rule++) {
+            LentMinds x = five();
             int often = 1;
             for (int q = 2; q <= 60; q++) {
                 often = x.run(rule, q, 0, 0) < x.run(rule, often, 0, 0) ? q : often;

@@ -17,6 +17,7 @@ public final class SpotImageEdgesTest {
         noneLeft();
         latestFirst();
         whatAnImageHas();
+        worthAndHarmOfADay();
         whatAnImageHasNot();
         aNewHouseHasNone();
         imagesWithoutAHouse();
@@ -253,6 +254,25 @@ public final class SpotImageEdgesTest {
         Checks.due("the mind on its way", x.mind(), mind);
         Checks.due("a spot more is the third", x.spot(0, 0), 3);
         Checks.due("a passing more is the third", x.passing(0, 0), 3);
+    }
+
+    private static void worthAndHarmOfADay() {
+        LentMinds x = Checks.house("body 0 0 1 3 5 7;body 0 0 1 9 2 1;");
+        x.minutes(2);
+        x.image();
+        x.minutes(2);
+        int[] behind = {6, 7, 1, 0};
+        int[] ahead = {2, 0, 0, 0};
+        for (int what = 0; what < 4; what++) {
+            Checks.due("day(" + what + ") behind the image", x.day(what), behind[what]);
+        }
+        x.restore();
+        for (int what = 0; what < 4; what++) {
+            Checks.due("day(" + what + ") as in the image", x.day(what), ahead[what]);
+        }
+        Checks.due("not done any more", x.now(0, 4), 0);
+        x.minutes(1);
+        Checks.due("done anew", x.day(1), 7);
     }
 
     private static void whatAnImageHasNot() {
