@@ -11,6 +11,7 @@ public final class FewEdgesTest {
         whatDoesNotMatter();
         firstAndLastStep();
         theRound();
+        farWaysAndManyStates();
         densities();
         twoAtTheirEnds();
         partsOfFourAtMost();
@@ -173,6 +174,24 @@ public final class FewEdgesTest {
         int first = y.round(15, 0);
         for (int k = first; k < first + 40; k++) {
             Checks.due("a round later, " + k, y.step(15, k + 4), y.step(15, k));
+        }
+    }
+
+    /** Most states that it may come to lead nowhere; the answers are those of Naive, too. */
+    private static void farWaysAndManyStates() {
+        hasSteps("body 4 5 8 9 1 0;body 7 13 8 9 1 0;body 13 3 8 9 1 0;body 4 0 8 9 1 0;breath 0;stride 6;",
+            "003012030120301", 5, 5, 9);
+        hasSteps("body 8 2 5 9 1 0;body 8 5 8 9 1 0;body 0 7 8 9 1 0;body 9 3 8 9 1 0;breath 0;stride 5;",
+            "000130201302013", 5, 5, 9);
+    }
+
+    private static void hasSteps(String text, String steps, int... round) {
+        LentMinds x = Checks.house(text);
+        for (int k = 0; k < steps.length(); k++) {
+            Checks.due("step " + k, x.step(15, k), steps.charAt(k) - '0');
+        }
+        for (int what = 0; what < 3; what++) {
+            Checks.due("round " + what, x.round(15, what), round[what]);
         }
     }
 

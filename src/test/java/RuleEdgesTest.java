@@ -18,6 +18,7 @@ public final class RuleEdgesTest {
         harmByOneAtLeast();
         nearest();
         soonest();
+        ofAlikeOnesTheFirst();
         seedOfOtherRules();
         drawnByRuleFive();
         drawnForThoseWhoCan();
@@ -181,6 +182,24 @@ public final class RuleEdgesTest {
         chosen("240 and 239", 4, 0, "0 0 60 240 0 1", "0 0 60 239 0 2");
         chosen("1 and 240", 4, 1, "0 0 60 1 0 1", "0 0 60 240 0 2");
         chosen("240 and 1", 4, 2, "0 0 60 240 0 1", "0 0 60 1 0 2");
+    }
+
+    private static void ofAlikeOnesTheFirst() {
+        // with the second, third or last of four: all others are alike
+        for (int with = 0; with < 4; with++) {
+            StringBuilder text = new StringBuilder();
+            for (int b = 0; b < 4; b++) {
+                text.append("body 0 0 9 ").append(b == with ? 240 : 1).append(" 3 ").append(1 << b).append(';');
+                text.append("cries ").append(b).append(" 20 20;");
+            }
+            LentMinds x = Checks.house(text + LAST);
+            x.pass(with);
+            int first = with == 0 ? 2 : 1;
+            for (int rule = 1; rule <= 5; rule++) {
+                Checks.due("with " + with + ", rule " + rule, x.run(rule, 29, 1, 7), first);
+            }
+            Checks.due("with " + with + ", ROUND", x.run(0, 29, 1, 7), 1 << (with + 1) % 4);
+        }
     }
 
     private static void seedOfOtherRules() {
