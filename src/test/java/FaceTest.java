@@ -8,14 +8,52 @@ import java.util.TreeSet;
 
 /** The face is the document's, and nothing else of the class can be seen. */
 public final class FaceTest {
-    private static final String FACE = "feed5 house1 fault0 told1 body2 now2 costs2 pass1 mind0 bed2 minutes1 day1 "
-        + "passing2 clear0 judge1 run4 best1 often1 taught4 pays3 trust2 answer4 can1 step2 round2 density1 stay1 "
-        + "beds3 two1 alike2 spot2 placed1 back3 safe0 gone1 over0 image0 restore0 count1";
+    private static final List<String> FACE = List.of(
+        "int feed(int, int, int, int, int)",
+        "int house(int) throws IllegalArgumentException",
+        "int fault()",
+        "int told(int) throws IllegalArgumentException",
+        "int body(int, int) throws NoSuchElementException, IllegalArgumentException",
+        "int now(int, int) throws NoSuchElementException, IllegalArgumentException",
+        "int costs(int, int) throws NoSuchElementException",
+        "int pass(int) throws NoSuchElementException",
+        "int mind()",
+        "boolean bed(int, boolean) throws NoSuchElementException",
+        "int minutes(int) throws IllegalArgumentException, IllegalStateException",
+        "int day(int) throws IllegalArgumentException",
+        "int passing(int, int) throws NoSuchElementException, IllegalArgumentException",
+        "int clear()",
+        "int judge(int) throws IllegalArgumentException",
+        "int run(int, int, int, int) throws IllegalArgumentException",
+        "int best(int) throws IllegalArgumentException",
+        "int often(int) throws IllegalArgumentException",
+        "int taught(int, int, int, int) throws NoSuchElementException, IllegalArgumentException",
+        "int pays(int, int, int) throws IllegalArgumentException",
+        "int trust(int, int) throws NoSuchElementException, IllegalArgumentException",
+        "boolean answer(int, int, int, int) throws NoSuchElementException, IllegalArgumentException",
+        "boolean can(int) throws IllegalArgumentException",
+        "int step(int, int) throws IllegalArgumentException",
+        "int round(int, int) throws IllegalArgumentException",
+        "int density(int) throws IllegalArgumentException",
+        "int stay(int) throws NoSuchElementException",
+        "int beds(int, int, int) throws NoSuchElementException, IllegalArgumentException",
+        "int two(int) throws IllegalArgumentException",
+        "int alike(int, int) throws IllegalArgumentException",
+        "int spot(int, int) throws IllegalArgumentException",
+        "int placed(int) throws IllegalArgumentException",
+        "int back(int, int, int) throws IllegalArgumentException",
+        "int safe()",
+        "int gone(int) throws IllegalArgumentException",
+        "int over()",
+        "int image()",
+        "int restore()",
+        "int count(int)");
 
     private FaceTest() { }
 
     public static void main(String[] args) {
         Checks.due("final", Modifier.isFinal(LentMinds.class.getModifiers()), true);
+        Checks.due("public", Modifier.isPublic(LentMinds.class.getModifiers()), true);
         Checks.due("NONE", LentMinds.NONE, -1);
         methods();
         rest();
@@ -28,17 +66,30 @@ public final class FaceTest {
         List<String> hidden = new ArrayList<>();
         for (Method m : LentMinds.class.getDeclaredMethods()) {
             if (Modifier.isPublic(m.getModifiers())) {
-                seen.add(m.getName() + m.getParameterCount());
+                seen.add(written(m));
                 names.add(m.getName());
             } else {
                 Checks.due(m.getName() + " is private", Modifier.isPrivate(m.getModifiers()), true);
                 hidden.add(m.getName());
             }
         }
-        Checks.due("methods", seen, new TreeSet<>(List.of(FACE.split(" "))));
+        Checks.due("methods", seen, new TreeSet<>(FACE));
         for (String name : hidden) {
             Checks.due(name + " is no public name", names.contains(name), false);
         }
+    }
+
+    private static String written(Method m) {
+        List<String> types = new ArrayList<>();
+        for (Class<?> type : m.getParameterTypes()) {
+            types.add(type.getSimpleName());
+        }
+        List<String> thrown = new ArrayList<>();
+        for (Class<?> type : m.getExceptionTypes()) {
+            thrown.add(type.getSimpleName());
+        }
+        return m.getReturnType().getSimpleName() + " " + m.getName() + "(" + String.join(", ", types) + ")"
+            + (thrown.isEmpty() ? "" : " throws " + String.join(", ", thrown));
     }
 
     private static void rest() {
@@ -48,6 +99,7 @@ public final class FaceTest {
         }
         Constructor<?>[] made = LentMinds.class.getDeclaredConstructors();
         Checks.due("constructors", made.length, 1);
+        Checks.due("a public one", Modifier.isPublic(made[0].getModifiers()), true);
         Checks.due("its parameters", made[0].getParameterCount(), 0);
         for (Class<?> c : LentMinds.class.getDeclaredClasses()) {
             Checks.due(c.getName() + " is static", Modifier.isStatic(c.getModifiers()), true);
